@@ -102,6 +102,9 @@ public final class CodesTest {
             KeyRows x = new KeyRows();
             x.fill(0, 0, 4095);
             DUE.is("write of all, KIND " + kind, x.write(0, kind), want.length());
+            DUE.is("read of all, KIND " + kind, x.read(1, kind), 4096);
+            DUE.is("count of what was read", x.count(1), 4096);
+            DUE.is("ask of all, KIND " + kind, x.ask(kind, 4095), 4095);
             for (int i = from; i < Math.min(from + 500, want.length()); i++) {
                 DUE.is("bit(" + i + ") of all, KIND " + kind, x.bit(i), want.charAt(i) - '0');
             }
@@ -203,6 +206,7 @@ public final class CodesTest {
         noCode(0, "no last 0", "0000000000001 000000000101 1");
         noCode(0, "a 0 too many", "0000000000001 000000000101 100");
         noCode(0, "a 1 behind the last 0", "0000000000001 000000000101 01");
+        noCode(0, "a NUMBER 4096", "0000000000001 000000000000 01");
         noCode(0, "two 1s", "0000000000001 000000000101 11");
         noCode(0, "no 1", "0000000000001 000000000101 00");
         noCode(0, "the same NUMBER twice", "0000000000010 00000000001 00000000001 1100");
@@ -249,6 +253,7 @@ public final class CodesTest {
         noCode(2, "RUNS over each other", "10 00000001 00000000 00000111 00000100 00001111" + rest(15));
         noCode(2, "the greater RUN first", "10 00000001 01000000 00000111 00000000 00000111" + rest(15));
         noCode(2, "a RUN over its PIECE's end", "10 00000000 11111101 00000011" + rest(15));
+        noCode(2, "a RUN over the last PIECE's end", rest(15) + "10 00000000 11111101 00000011");
         noCode(2, "RUNS cut short", rest(15) + "10 00000000 11110000 0000111");
         StringBuilder runs = new StringBuilder();
         for (int i = 0; i < 16; i++) {
