@@ -129,7 +129,8 @@ public final class ModelTest {
             test.due("write", test.real.write(0, kind), test.model.write(0, kind));
             for (int i = 0; i < 40; i++) {
                 int a = test.random.nextInt(Math.min(test.model.tape.length(), i % 2 == 0 ? 200 : 8210));
-                int b = test.random.nextInt(3) == 0 ? a : Math.min(a + 1 + test.random.nextInt(9), test.model.tape.length() - 1);
+                int behind = Math.min(a + 1 + test.random.nextInt(9), test.model.tape.length() - 1);
+                int b = test.random.nextInt(3) == 0 ? a : behind;
                 test.real.flip(a);
                 test.model.flip(a);
                 test.due("read, bit " + a + " turned", test.real.read(1, kind), test.model.read(1, kind));
