@@ -1,20 +1,17 @@
-/** Promises 15 to 18: the three CODES, with tapes written out by hand, and tapes that are no CODE. */
+/** Promises 15 to 18: the three CODES, with tapes written out by hand. */
 public final class CodesTest {
     private static final Due DUE = new Due("CodesTest");
-    private static final int[] NO_SETS = {-1, 8, Integer.MIN_VALUE, Integer.MAX_VALUE};
-    private static final int[] NO_KINDS = {-1, 3, Integer.MIN_VALUE, Integer.MAX_VALUE};
+    private static final int[] AROUND_POWERS = {1, 2, 3, 4, 5, 7, 8, 9, 15, 16, 17, 31, 32, 33, 63, 64, 65, 127, 128,
+        129, 255, 256, 257, 511, 512, 513, 1023, 1024, 1025, 2047, 2048, 2049, 4095, 4096};
 
     public static void main(String[] args) {
-        codesByHand();
-        codesOfManyNumbers();
+        twoParts();
+        gaps();
+        pieces();
         promise15();
         promise16();
         promise17();
         promise18();
-        noTwoParts();
-        noGaps();
-        noPieces();
-        moreNumbersThanThereAre();
         DUE.end();
     }
 
@@ -32,249 +29,502 @@ public final class CodesTest {
         DUE.is("read of KIND " + kind, x.read(1, kind), numbers.length);
         DUE.is("join of what was read", x.join(2, 0, 1, 3), 0);
         DUE.is("size() stays", x.size(), want.length());
-        for (int k = 0; k < numbers.length; k++) {
+        for (int k = 0; k < Math.min(numbers.length, 40); k++) {
             DUE.is("ask of KIND " + kind, x.ask(kind, k), x.select(0, k));
         }
         DUE.is("ask behind the last", x.ask(kind, numbers.length), KeyRows.NONE);
-    }
-
-    private static void noCode(int kind, String why, String tape) {
-        KeyRows x = new KeyRows();
-        x.fill(3, 100, 200);
-        Due.tape(x, tape);
-        DUE.is("read of KIND " + kind + ", " + why, x.read(3, kind), KeyRows.NONE);
-        DUE.is("the SET stays, " + why, x.rank(3, 201) - x.rank(3, 100), 101);
-        DUE.is("the SET stays, " + why, x.count(3), 101);
-        DUE.is("ask of KIND " + kind + ", " + why, x.ask(kind, 0), KeyRows.NONE);
-        String want = tape.replace(" ", "");
-        DUE.is("size() stays", x.size(), want.length());
-        // An object answers 512 calls: a long tape has cost too many of them already.
-        if (want.length() < 200) {
-            DUE.same("THE TAPE stays", Due.tape(x), want);
-        }
+        DUE.is("ask ahead of the first", x.ask(kind, -1), KeyRows.NONE);
     }
 
     private static String rest(int pieces) {
         return "11".repeat(pieces);
     }
 
-    private static void codesByHand() {
-        code(0, "0000000000000");
-        code(1, "0000000000000");
-        code(2, rest(16));
-        code(0, "0000000000001 000000000101 10", 5);
-        code(1, "0000000000001 00110", 5);
-        code(2, "00 00000000 00000101" + rest(15), 5);
-        code(0, "0000000000001 111111111111 10", 4095);
-        code(1, "0000000000001 000000000000 1000000000000", 4095);
-        code(2, rest(15) + "00 00000000 11111111", 4095);
-        // n = 3: l is 10, since 3 times 1024 is 4096 at most, and there are four high parts.
-        code(0, "0000000000011 0000000000 1111111111 0000000001 10 10 0 10", 0, 2047, 3073);
-        code(1, "0000000000011 1 0000000000 11111111111 0000000000 10000000010", 0, 2047, 3073);
-        code(2, "10 00000001 00000001 00000010 00000101 00000011" + rest(15), 1, 2, 3, 5, 6, 7, 8);
-        code(2, "10 00000000 11111101 00000010 00 00000001 00000000 00000001" + rest(14), 253, 254, 255, 256, 257);
+    private static void twoParts() {
+        DUE.test("TWO PARTS: n is 0: 13 bits and no more", () -> code(0, "0000000000000"));
+        DUE.test("TWO PARTS: n is 1: l is 12, and q is 0 alone", () -> {
+            code(0, "0000000000001 000000000000 10", 0);
+            code(0, "0000000000001 000000000101 10", 5);
+            code(0, "0000000000001 111111111111 10", 4095);
+        });
+        DUE.test("TWO PARTS: n is 2: l is 11", () -> {
+            code(0, "0000000000010 00000000000 11111111111 10 10", 0, 4095);
+            code(0, "0000000000010 00000000000 11111111111 110 0", 0, 2047);
+            code(0, "0000000000010 00000000000 00000000001 0 110", 2048, 2049);
+        });
+        DUE.test("TWO PARTS: n times 2 to the l is 4096 at most: 3 and 4 have 10, 5 has 9", () -> {
+            code(0, "0000000000011 0000000000 1111111111 0000000001 10 10 0 10", 0, 2047, 3073);
+            code(0, "0000000000100 0000000000 0000000000 0000000000 0000000000 10 10 10 10", 0, 1024, 2048, 3072);
+            code(0, "0000000000101 000000000 111111111 000000000 000000000 111111111 110 10 10 0 0 0 0 10",
+                0, 511, 512, 1024, 4095);
+        });
+        DUE.test("TWO PARTS: all NUMBERS: l is 0, a 1 and a 0 for each", () ->
+            tapeOf(0, 0, 4095, Due.bits(4096, 13) + "10".repeat(4096)));
+        DUE.test("TWO PARTS: 2048 NUMBERS: l is 1; 2049: l is 0", () -> {
+            tapeOf(0, 0, 2047, Due.bits(2048, 13) + "01".repeat(1024) + "110".repeat(1024) + "0".repeat(1024));
+            tapeOf(0, 2048, 4095, Due.bits(2048, 13) + "01".repeat(1024) + "0".repeat(1024) + "110".repeat(1024));
+            tapeOf(0, 0, 2048, Due.bits(2049, 13) + "10".repeat(2049) + "0".repeat(2047));
+            tapeOf(0, 2047, 4095, Due.bits(2049, 13) + "0".repeat(2047) + "10".repeat(2049));
+        });
+        DUE.test("TWO PARTS: each NUMBER alone, its lowest 12 bits, the highest one first", () -> {
+            for (int v = 0; v < 4096; v++) {
+                alone(0, "0000000000001" + Due.bits(v, 12) + "10", v);
+            }
+        });
+        DUE.test("TWO PARTS: all but the first NUMBER, all but the last one", () -> {
+            tapeOf(0, 1, 4095, Due.bits(4095, 13) + "0" + "10".repeat(4095));
+            tapeOf(0, 0, 4094, Due.bits(4095, 13) + "10".repeat(4095) + "0");
+        });
     }
 
-    private static void codesOfManyNumbers() {
-        StringBuilder bits = new StringBuilder();
-        StringBuilder list = new StringBuilder("00" + Due.bits(31, 8));
-        int[] listed = new int[32];
-        int[] spread = new int[33];
-        for (int i = 0; i < 33; i++) {
-            spread[i] = 256 + 3 * i;
-            bits.append(i == 0 ? "" : "00").append("1");
-            if (i < 32) {
-                listed[i] = 4 * i;
-                list.append(Due.bits(4 * i, 8));
+    private static void gaps() {
+        DUE.test("GAPS: n is 0: 13 bits and no more", () -> code(1, "0000000000000"));
+        DUE.test("GAPS: the first one: by how much it is above -1", () -> {
+            code(1, "0000000000001 1", 0);
+            code(1, "0000000000001 010", 1);
+            code(1, "0000000000001 00110", 5);
+            code(1, "0000000000001 000000000000 1000000000000", 4095);
+            code(1, "0000000000001 00000000000 111111111111", 4094);
+        });
+        DUE.test("GAPS: by how much it is above the one ahead of it", () -> {
+            code(1, "0000000000011 1 0000000000 11111111111 0000000000 10000000010", 0, 2047, 3073);
+            code(1, "0000000000010 1 00000000000 111111111111", 0, 4095);
+            code(1, "0000000000010 00000000000 111111111111 1", 4094, 4095);
+            code(1, "0000000000011 1 1 1", 0, 1, 2);
+        });
+        DUE.test("GAPS: as many 0s as it has bits, less one: 2 to the b and one less", () -> {
+            for (int b = 1; b <= 12; b++) {
+                int gap = 1 << b;
+                alone(1, "0000000000001" + "0".repeat(b) + Due.bits(gap, b + 1), gap - 1);
+                alone(1, "0000000000001" + "0".repeat(b - 1) + Due.bits(gap - 1, b), gap - 2);
             }
-        }
-        bits.append("0".repeat(256 - bits.length()));
-        code(2, "11 01" + bits + rest(14), spread);
-        code(2, list + rest(15), listed);
-        tapeOfAll(0, Due.bits(4096, 13) + "10".repeat(4096));
-        tapeOfAll(1, Due.bits(4096, 13) + "1".repeat(4096));
-        tapeOfAll(2, ("10" + Due.bits(0, 8) + Due.bits(0, 8) + Due.bits(255, 8)).repeat(16));
+        });
+        DUE.test("GAPS: each NUMBER alone", () -> {
+            for (int v = 0; v < 4096; v++) {
+                String gap = Integer.toBinaryString(v + 1);
+                alone(1, "0000000000001" + "0".repeat(gap.length() - 1) + gap, v);
+            }
+        });
+        DUE.test("GAPS: all NUMBERS: a 1 for each; all but the first, all but the last", () -> {
+            tapeOf(1, 0, 4095, Due.bits(4096, 13) + "1".repeat(4096));
+            tapeOf(1, 1, 4095, Due.bits(4095, 13) + "010" + "1".repeat(4094));
+            tapeOf(1, 0, 4094, Due.bits(4095, 13) + "1".repeat(4095));
+        });
     }
 
-    /** An object answers 512 calls, so each one is asked for some 500 bits. */
-    private static void tapeOfAll(int kind, String want) {
-        for (int from = 0; from < want.length(); from += 500) {
-            KeyRows x = new KeyRows();
-            x.fill(0, 0, 4095);
-            DUE.is("write of all, KIND " + kind, x.write(0, kind), want.length());
-            DUE.is("read of all, KIND " + kind, x.read(1, kind), 4096);
-            DUE.is("count of what was read", x.count(1), 4096);
-            DUE.is("ask of all, KIND " + kind, x.ask(kind, 4095), 4095);
-            for (int i = from; i < Math.min(from + 500, want.length()); i++) {
-                DUE.is("bit(" + i + ") of all, KIND " + kind, x.bit(i), want.charAt(i) - '0');
+    private static void pieces() {
+        DUE.test("PIECES: 3: none, for each PIECE of a SET without NUMBERS", () -> code(2, rest(16)));
+        DUE.test("PIECES: a LIST in the first PIECE, in the last one, in each", () -> {
+            code(2, "00 00000000 00000101" + rest(15), 5);
+            code(2, rest(15) + "00 00000000 11111111", 4095);
+            for (int h = 0; h < 16; h++) {
+                code(2, rest(h) + "00 00000001 00000000 11111111" + rest(15 - h), 256 * h, 256 * h + 255);
+            }
+        });
+        DUE.test("PIECES: a LIST: n less 1, from 1 NUMBER to 32", PiecesOfNumbers::lists);
+        DUE.test("PIECES: BITS: 256 of them, the n-th one for the n-th number", PiecesOfNumbers::bits);
+        DUE.test("PIECES: RUNS: r less 1, from 1 RUN to 15", PiecesOfNumbers::runs);
+        DUE.test("PIECES: RUNS: its first NUMBER, and how many it has less 1", () -> {
+            code(2, "10 00000001 00000001 00000010 00000101 00000011" + rest(15), 1, 2, 3, 5, 6, 7, 8);
+            code(2, "10 00000000 00000000 00000010" + rest(15), 0, 1, 2);
+            code(2, "10 00000000 11111101 00000010" + rest(15), 253, 254, 255);
+        });
+        DUE.test("PIECES: a RUN ends with its PIECE", () -> {
+            code(2, "10 00000000 11111101 00000010 00 00000001 00000000 00000001" + rest(14), 253, 254, 255, 256, 257);
+            code(2, "00 00000000 11111111 00 00000000 00000000" + rest(14), 255, 256);
+            tapeOf(2, 253, 258, "10 00000000 11111101 00000010 10 00000000 00000000 00000010" + rest(14));
+        });
+        DUE.test("PIECES: a RUN of all 256; all NUMBERS", () -> {
+            String all = "10 00000000 00000000 11111111";
+            for (int h = 0; h < 16; h++) {
+                tapeOf(2, 256 * h, 256 * h + 255, rest(h) + all + rest(15 - h));
+            }
+            tapeOf(2, 0, 4095, all.repeat(16));
+            tapeOf(2, 1, 4095, "10 00000000 00000001 11111110" + all.repeat(15));
+            tapeOf(2, 0, 4094, all.repeat(15) + "10 00000000 00000000 11111110");
+        });
+        DUE.test("PIECES: each NUMBER alone", () -> {
+            for (int v = 0; v < 4096; v++) {
+                alone(2, rest(v / 256) + "00 00000000" + Due.bits(v % 256, 8) + rest(15 - v / 256), v);
+            }
+        });
+    }
+
+    /** THE CODES of one PIECE with many NUMBERS, in the first PIECE, a middle one and the last. */
+    private static final class PiecesOfNumbers {
+        private static void in(int[] pieceNumbers, String told) {
+            for (int h : new int[] {0, 6, 15}) {
+                int[] numbers = new int[pieceNumbers.length];
+                for (int i = 0; i < numbers.length; i++) {
+                    numbers[i] = 256 * h + pieceNumbers[i];
+                }
+                code(2, rest(h) + told + rest(15 - h), numbers);
             }
         }
+
+        static void lists() {
+            for (int n = 1; n <= 32; n++) {
+                int[] numbers = new int[n];
+                StringBuilder told = new StringBuilder("00" + Due.bits(n - 1, 8));
+                for (int i = 0; i < n; i++) {
+                    numbers[i] = 255 - 8 * (n - 1 - i);
+                    told.append(Due.bits(numbers[i], 8));
+                }
+                in(numbers, told.toString());
+            }
+        }
+
+        static void bits() {
+            for (int first : new int[] {0, 1}) {
+                int[] numbers = new int[33];
+                char[] told = "0".repeat(256).toCharArray();
+                for (int i = 0; i < 33; i++) {
+                    numbers[i] = i < 32 ? first + 7 * i : 255;
+                    told[numbers[i]] = '1';
+                }
+                in(numbers, "01" + new String(told));
+            }
+        }
+
+        static void runs() {
+            for (int r = 1; r <= 15; r++) {
+                int[] numbers = new int[3 * r];
+                StringBuilder told = new StringBuilder("10" + Due.bits(r - 1, 8));
+                for (int i = 0; i < r; i++) {
+                    int first = 253 - 17 * (r - 1 - i);
+                    told.append(Due.bits(first, 8)).append("00000010");
+                    for (int j = 0; j < 3; j++) {
+                        numbers[3 * i + j] = first + j;
+                    }
+                }
+                in(numbers, told.toString());
+            }
+        }
+    }
+
+    private static void alone(int kind, String tape, int v) {
+        KeyRows x = new KeyRows();
+        x.put(0, v);
+        String want = tape.replace(" ", "");
+        DUE.is("length of " + v, x.length(0, kind), want.length());
+        x.write(0, kind);
+        DUE.same("THE TAPE of " + v, Due.tape(x), want);
+        DUE.is("read of " + v, x.read(1, kind), 1);
+        DUE.is("what was read", x.next(1, 0), v);
+        DUE.is("ask(" + kind + ", 0)", x.ask(kind, 0), v);
+        DUE.is("ask(" + kind + ", 1)", x.ask(kind, 1), KeyRows.NONE);
+    }
+
+    /** THE CODE of all NUMBERS from first to last. */
+    private static void tapeOf(int kind, int first, int last, String tape) {
+        String want = tape.replace(" ", "");
+        DUE.tape(first + " to " + last + ", KIND " + kind, () -> written(kind, first, last), want);
+        KeyRows x = written(kind, first, last);
+        int n = last - first + 1;
+        DUE.is("length", x.length(0, kind), want.length());
+        DUE.is("read", x.read(1, kind), n);
+        DUE.is("common(0, 1)", x.common(0, 1), n);
+        DUE.is("count(1)", x.count(1), n);
+        DUE.is("ask for the first", x.ask(kind, 0), first);
+        DUE.is("ask for the last", x.ask(kind, n - 1), last);
+        DUE.is("ask behind the last", x.ask(kind, n), KeyRows.NONE);
+    }
+
+    private static KeyRows written(int kind, int first, int last) {
+        KeyRows x = new KeyRows();
+        x.fill(0, first, last);
+        x.write(0, kind);
+        return x;
     }
 
     private static void promise15() {
-        KeyRows x = new KeyRows();
-        int[][] rows = {{1, 13 + 12 + 1 + 1}, {2, 13 + 22 + 2 + 2}, {3, 13 + 30 + 3 + 4}, {4, 13 + 40 + 4 + 4},
-            {5, 13 + 45 + 5 + 8}, {2047, 13 + 2047 + 2047 + 2048}, {2048, 13 + 2048 * 3}, {2049, 13 + 2049 + 4096},
-            {4096, 13 + 8192}};
-        for (int[] row : rows) {
-            x.fill(0, 0, row[0] - 1);
-            DUE.is("length of TWO PARTS, " + row[0], x.length(0, 0), row[1]);
-            DUE.is("length of GAPS, " + row[0], x.length(0, 1), 13 + row[0]);
+        DUE.test("15: without NUMBERS, and with all of them", () -> {
+            int[][] rows = {{0, 0, 13}, {0, 1, 13}, {0, 2, 32}, {6, 0, 8205}, {6, 1, 4109}, {6, 2, 416}};
+            for (int[] row : rows) {
+                DUE.is("length(" + row[0] + ", " + row[1] + ")", Sample.make().length(row[0], row[1]), row[2]);
+            }
+        });
+        DUE.test("15: TWO PARTS: 13 bits, l for each NUMBER, a 1 for each NUMBER, a 0 for each q", () -> {
+            int[][] rows = {{1, 13 + 12 + 1 + 1}, {2, 13 + 22 + 2 + 2}, {3, 13 + 30 + 3 + 4}, {4, 13 + 40 + 4 + 4},
+                {5, 13 + 45 + 5 + 8}, {8, 13 + 72 + 8 + 8}, {9, 13 + 72 + 9 + 16}, {2047, 13 + 2047 + 2047 + 2048},
+                {2048, 13 + 2048 * 3}, {2049, 13 + 2049 + 4096}, {4095, 13 + 4095 + 4096}};
+            for (int[] row : rows) {
+                DUE.is("length of " + row[0] + " NUMBERS", written(0, 0, row[0] - 1).length(0, 0), row[1]);
+            }
+        });
+        DUE.test("15: TWO PARTS and GAPS around each power of 2", CodesTest::lengthsAroundPowers);
+        DUE.test("15: TWO PARTS of each n from 0 to 4096", CodesTest::lengthsOfEachAmount);
+        DUE.test("15: GAPS of each gap, PIECES of each second NUMBER", () -> {
+            KeyRows x = new KeyRows();
+            for (int v = 1; v < 256; v += 2) {
+                x.put(0, v);
+            }
+            DUE.is("length of GAPS", x.length(0, 1), 13 + 3 * 128);
+            DUE.is("length of PIECES", x.length(0, 2), 258 + 15 * 2);
+        });
+        DUE.test("15: asking changes nothing, not THE TAPE either", () -> {
+            for (int kind = 0; kind < 3; kind++) {
+                KeyRows x = Sample.make();
+                x.length(6, kind);
+                x.length(0, kind);
+                DUE.same("what is there", Sample.state(x), Sample.STATE);
+            }
+        });
+        setAndKind("15", "length", KeyRows::length);
+    }
+
+    private interface SetAndKind {
+        int on(KeyRows x, int set, int kind);
+    }
+
+    /** What length, write and read have in common: KINDS 0 to 2, SETS 0 to 7, and what comes first. */
+    private static void setAndKind(String promise, String call, SetAndKind made) {
+        DUE.test(promise + ": OUTSIDE: a KIND below 0 or above 2, and nothing changes", () -> {
+            for (int set = 0; set < 8; set++) {
+                int s = set;
+                DUE.stays(call + "(s, #)", Sample.NO_KINDS, k -> x -> made.on(x, s, k), KeyRows.OUTSIDE);
+            }
+        });
+        DUE.test(promise + ": UNKNOWN: no SET, and nothing changes", () -> {
+            for (int kind = 0; kind < 3; kind++) {
+                int k = kind;
+                DUE.stays(call + "(#, k)", Sample.NO_SETS, s -> x -> made.on(x, s, k), KeyRows.UNKNOWN);
+            }
+        });
+        DUE.test(promise + ": UNKNOWN ahead of OUTSIDE", () -> {
+            DUE.stays(call + "(#, -1)", Sample.NO_SETS, s -> x -> made.on(x, s, -1), KeyRows.UNKNOWN);
+            DUE.stays(call + "(#, 3)", Sample.NO_SETS, s -> x -> made.on(x, s, 3), KeyRows.UNKNOWN);
+        });
+    }
+
+    private static int lengthOfTwoParts(int n) {
+        int l = 12;
+        while (n << l > 4096) {
+            l--;
         }
-        x.drop(0, 0, 4095);
-        for (int v = 1; v < 256; v += 2) {
-            x.put(0, v);
+        return n == 0 ? 13 : 13 + n * l + n + 4096 / (1 << l);
+    }
+
+    private static void lengthsAroundPowers() {
+        for (int n : AROUND_POWERS) {
+            for (int first : new int[] {0, 4096 - n}) {
+                KeyRows x = written(0, first, first + n - 1);
+                DUE.is("length of TWO PARTS, " + n, x.length(0, 0), lengthOfTwoParts(n));
+                DUE.is("size() of TWO PARTS, " + n, x.size(), lengthOfTwoParts(n));
+                DUE.is("read of TWO PARTS, " + n, x.read(1, 0), n);
+                DUE.is("what was read", x.common(0, 1), n);
+                int gap = Integer.toBinaryString(first + 1).length();
+                DUE.is("length of GAPS, " + n, x.length(0, 1), 13 + 2 * gap - 1 + n - 1);
+                DUE.is("write of GAPS, " + n, x.write(0, 1), 13 + 2 * gap - 1 + n - 1);
+                DUE.is("read of GAPS, " + n, x.read(2, 1), n);
+                DUE.is("what was read", x.common(0, 2), n);
+            }
         }
-        DUE.is("length of GAPS, each 2", x.length(0, 1), 13 + 3 * 128);
-        DUE.is("length of PIECES, one of BITS", x.length(0, 2), 258 + 15 * 2);
-        DUE.is("size() stays", x.size(), 0);
-        for (int set : NO_SETS) {
-            DUE.is("length(" + set + ", 9)", x.length(set, 9), KeyRows.UNKNOWN);
-        }
-        for (int kind : NO_KINDS) {
-            DUE.is("length(0, " + kind + ")", x.length(0, kind), KeyRows.OUTSIDE);
+    }
+
+    private static void lengthsOfEachAmount() {
+        for (int from = 0; from <= 4096; from += 200) {
+            KeyRows x = new KeyRows();
+            if (from > 0) {
+                x.fill(0, 0, from - 1);
+            }
+            for (int n = from; n < from + 200 && n <= 4096; n++) {
+                DUE.is("length of TWO PARTS, " + n, x.length(0, 0), lengthOfTwoParts(n));
+                x.put(0, Math.min(n, 4095));
+            }
         }
     }
 
     private static void promise16() {
-        KeyRows x = new KeyRows();
-        x.put(0, 5);
-        Due.tape(x, "1111111111111111111111111111111111111111");
-        for (int set : NO_SETS) {
-            DUE.is("write(" + set + ", 9)", x.write(set, 9), KeyRows.UNKNOWN);
-        }
-        for (int kind : NO_KINDS) {
-            DUE.is("write(0, " + kind + ")", x.write(0, kind), KeyRows.OUTSIDE);
-        }
-        DUE.same("THE TAPE stays", Due.tape(x), "1".repeat(40));
-        DUE.is("write(0, 1)", x.write(0, 1), 18);
-        DUE.same("nothing of what was there", Due.tape(x), "000000000000100110");
-        DUE.same("the SET stays", Due.numbers(x, 0), "5");
+        DUE.test("16: how many bits: as many as length tells, as many as there are", () -> {
+            for (int set = 0; set < 8; set++) {
+                for (int kind = 0; kind < 3; kind++) {
+                    KeyRows x = Sample.make();
+                    int length = x.length(set, kind);
+                    DUE.is("write(" + set + ", " + kind + ")", x.write(set, kind), length);
+                    DUE.is("size()", x.size(), length);
+                }
+            }
+        });
+        DUE.test("16: THE TAPE is THE CODE: nothing of a longer one stays", () -> {
+            KeyRows x = Sample.makeFull();
+            DUE.is("write(4, 1)", x.write(4, 1), Sample.TAPE.length());
+            DUE.same("what is there", Sample.state(x), Sample.STATE);
+            Due.tape(x, "1".repeat(40));
+            DUE.is("write(0, 0)", x.write(0, 0), 13);
+            DUE.same("THE TAPE", Due.tape(x), "0".repeat(13));
+            x.sign(false);
+            DUE.is("the bit behind it", x.bit(13), 0);
+        });
+        DUE.test("16: a full TAPE has room for THE CODE, the longest one too", () -> {
+            for (int kind = 0; kind < 3; kind++) {
+                DUE.is("write(6, " + kind + ")", Sample.makeFull().write(6, kind), new int[] {8205, 4109, 416}[kind]);
+            }
+        });
+        DUE.test("16: written again: the same", () -> {
+            KeyRows x = Sample.make();
+            x.write(4, 1);
+            x.write(4, 1);
+            DUE.same("what is there", Sample.state(x), Sample.STATE);
+        });
+        DUE.test("16: the SETS stay", () -> {
+            for (int set = 0; set < 8; set++) {
+                for (int kind = 0; kind < 3; kind++) {
+                    KeyRows x = Sample.make();
+                    x.write(set, kind);
+                    Due.tape(x, Sample.TAPE);
+                    DUE.same("what is there", Sample.state(x), Sample.STATE);
+                }
+            }
+        });
+        setAndKind("16", "write", KeyRows::write);
     }
 
     private static void promise17() {
-        KeyRows x = new KeyRows();
-        x.fill(0, 7, 9);
-        x.put(1, 1);
-        x.write(0, 1);
-        for (int set : NO_SETS) {
-            DUE.is("read(" + set + ", 9)", x.read(set, 9), KeyRows.UNKNOWN);
+        DUE.test("17: any SET of any KIND, into any SET: how many NUMBERS it has", CodesTest::readEach);
+        DUE.test("17: a SET without NUMBERS: 0, and what the SET had is gone", () -> {
+            for (int kind = 0; kind < 3; kind++) {
+                KeyRows x = Sample.make();
+                x.write(0, kind);
+                DUE.is("read(6, " + kind + ")", x.read(6, kind), 0);
+                DUE.is("count(6)", x.count(6), 0);
+                DUE.is("read(3, " + kind + ")", x.read(3, kind), 0);
+                DUE.same("SET 3", Due.numbers(x, 3), "");
+            }
+        });
+        DUE.test("17: all NUMBERS", () -> {
+            for (int kind = 0; kind < 3; kind++) {
+                KeyRows x = Sample.make();
+                x.write(6, kind);
+                DUE.is("read(3, " + kind + ")", x.read(3, kind), 4096);
+                DUE.is("count(3)", x.count(3), 4096);
+            }
+        });
+        DUE.test("17: THE TAPE stays, and can be read again", () -> {
+            KeyRows x = Sample.make();
+            DUE.is("read(0, 1)", x.read(0, 1), 3);
+            DUE.is("read(7, 1)", x.read(7, 1), 3);
+            DUE.same("THE TAPE", Due.tape(x), Sample.TAPE);
+            DUE.same("SET 0", Due.numbers(x, 0), "10 11 12");
+            DUE.same("SET 7", Due.numbers(x, 7), "10 11 12");
+        });
+        DUE.test("17: what was read is apart from THE TAPE, and from the SET that was written", () -> {
+            KeyRows x = Sample.make();
+            x.read(0, 1);
+            x.put(0, 99);
+            x.drop(4, 0, 4095);
+            DUE.is("read(7, 1)", x.read(7, 1), 3);
+            DUE.same("SET 7", Due.numbers(x, 7), "10 11 12");
+            DUE.same("SET 0", Due.numbers(x, 0), "10 11 12 99");
+            DUE.is("count(4)", x.count(4), 0);
+        });
+        DUE.test("17: into the SET that was written: nothing changes", () ->
+            DUE.stays("read(4, 1)", x -> x.read(4, 1), 3));
+        DUE.test("17: NONE: THE CODE of another KIND, and nothing changes", () -> {
+            DUE.stays("read(0, 0)", x -> x.read(0, 0), KeyRows.NONE);
+            DUE.stays("read(0, 2)", x -> x.read(0, 2), KeyRows.NONE);
+            DUE.stays("read(4, 0)", x -> x.read(4, 0), KeyRows.NONE);
+            DUE.stays("read(6, 2)", x -> x.read(6, 2), KeyRows.NONE);
+        });
+        setAndKind("17", "read", KeyRows::read);
+        DUE.test("17: UNKNOWN and OUTSIDE ahead of NONE", () -> {
+            DUE.stays("read(#, 0)", Sample.NO_SETS, s -> x -> x.read(s, 0), KeyRows.UNKNOWN);
+            DUE.stays("read(#, 2)", Sample.NO_SETS, s -> x -> x.read(s, 2), KeyRows.UNKNOWN);
+            KeyRows x = new KeyRows();
+            DUE.is("read(8, 0) of an empty TAPE", x.read(8, 0), KeyRows.UNKNOWN);
+            DUE.is("read(0, 3) of an empty TAPE", x.read(0, 3), KeyRows.OUTSIDE);
+            DUE.is("read(0, -1) of an empty TAPE", x.read(0, -1), KeyRows.OUTSIDE);
+        });
+    }
+
+    private static void readEach() {
+        int[] amounts = {0, 1, 1, 6, 3, 3, 4096, 1};
+        for (int from = 0; from < 8; from++) {
+            for (int kind = 0; kind < 3; kind++) {
+                for (int to = 0; to < 8; to++) {
+                    KeyRows x = Sample.make();
+                    x.write(from, kind);
+                    String call = "read(" + to + ", " + kind + ") of SET " + from;
+                    DUE.is(call, x.read(to, kind), amounts[from]);
+                    DUE.is("count behind " + call, x.count(to), amounts[from]);
+                    DUE.is("what differs behind " + call, x.join(to, to, from, 3), 0);
+                    Due.tape(x, Sample.TAPE);
+                    String[] lines = Sample.STATE.split("\n", -1);
+                    String[] behind = Sample.state(x).split("\n", -1);
+                    for (int i = 0; i < lines.length; i++) {
+                        DUE.same("SET " + i + " behind " + call, behind[i], i == to ? to + ": " : lines[i]);
+                    }
+                }
+            }
         }
-        for (int kind : NO_KINDS) {
-            DUE.is("read(1, " + kind + ")", x.read(1, kind), KeyRows.OUTSIDE);
-        }
-        DUE.same("the SET stays", Due.numbers(x, 1), "1");
-        DUE.is("read(1, 1)", x.read(1, 1), 3);
-        DUE.same("the SET", Due.numbers(x, 1), "7 8 9");
-        x.put(1, 10);
-        DUE.same("the SET that was written", Due.numbers(x, 0), "7 8 9");
-        DUE.is("read(2, 1)", x.read(2, 1), 3);
-        DUE.same("the TAPE's SET, again", Due.numbers(x, 2), "7 8 9");
-        x.cut(0);
-        for (int kind = 0; kind < 3; kind++) {
-            DUE.is("read of an empty TAPE", x.read(1, kind), KeyRows.NONE);
-        }
-        DUE.same("the SET stays", Due.numbers(x, 1), "7 8 9 10");
     }
 
     private static void promise18() {
-        KeyRows x = new KeyRows();
-        x.fill(0, 7, 9);
+        DUE.test("18: the k-th NUMBER, from 0 on, up to the last one", () -> {
+            int[] numbers = {3, 31, 32, 255, 256, 4095};
+            for (int kind = 0; kind < 3; kind++) {
+                KeyRows x = Sample.make();
+                x.write(3, kind);
+                for (int k = 0; k < 6; k++) {
+                    DUE.is("ask(" + kind + ", " + k + ")", x.ask(kind, k), numbers[k]);
+                }
+                DUE.is("ask(" + kind + ", 6)", x.ask(kind, 6), KeyRows.NONE);
+                DUE.is("ask(" + kind + ", -1)", x.ask(kind, -1), KeyRows.NONE);
+            }
+        });
+        DUE.test("18: each k of all NUMBERS", CodesTest::askAll);
+        DUE.test("18: NONE: a SET without NUMBERS has none such", () -> {
+            for (int kind = 0; kind < 3; kind++) {
+                KeyRows x = Sample.make();
+                x.write(0, kind);
+                for (int k : new int[] {0, -1, 1, Integer.MIN_VALUE, Integer.MAX_VALUE}) {
+                    DUE.is("ask(" + kind + ", " + k + ")", x.ask(kind, k), KeyRows.NONE);
+                }
+            }
+        });
+        DUE.test("18: NONE: k below 0, or as many as there are, or above, and nothing changes", () -> {
+            int[] wrong = {-1, -2, 3, 4, 4095, 4096, 1 << 16, Integer.MIN_VALUE, Integer.MAX_VALUE};
+            DUE.stays("ask(1, #)", wrong, k -> x -> x.ask(1, k), KeyRows.NONE);
+        });
+        DUE.test("18: NONE: THE CODE of no SET, and nothing changes", () -> {
+            DUE.stays("ask(0, 0)", x -> x.ask(0, 0), KeyRows.NONE);
+            DUE.stays("ask(2, 0)", x -> x.ask(2, 0), KeyRows.NONE);
+            for (int kind = 0; kind < 3; kind++) {
+                DUE.is("ask of an empty TAPE", new KeyRows().ask(kind, 0), KeyRows.NONE);
+                DUE.is("ask of a full TAPE", Sample.makeFull().ask(kind, 0), KeyRows.NONE);
+            }
+        });
+        DUE.test("18: the SETS stay, and THE TAPE", () -> {
+            DUE.stays("ask(1, 0)", x -> x.ask(1, 0), 10);
+            DUE.stays("ask(1, 2)", x -> x.ask(1, 2), 12);
+        });
+        DUE.test("18: asked of THE TAPE, not of the SET that was written", () -> {
+            KeyRows x = Sample.make();
+            x.drop(4, 0, 4095);
+            DUE.is("ask(1, 1)", x.ask(1, 1), 11);
+            x.write(5, 2);
+            DUE.is("ask(2, 1)", x.ask(2, 1), 13);
+        });
+        DUE.test("18: OUTSIDE: a KIND below 0 or above 2, and nothing changes", () ->
+            DUE.stays("ask(#, 0)", Sample.NO_KINDS, kind -> x -> x.ask(kind, 0), KeyRows.OUTSIDE));
+        DUE.test("18: OUTSIDE ahead of NONE", () -> {
+            int[] ks = {-1, 3, Integer.MIN_VALUE, Integer.MAX_VALUE};
+            for (int k : ks) {
+                DUE.stays("ask(#, k)", Sample.NO_KINDS, kind -> x -> x.ask(kind, k), KeyRows.OUTSIDE);
+            }
+            DUE.is("ask(-1, 0) of an empty TAPE", new KeyRows().ask(-1, 0), KeyRows.OUTSIDE);
+            DUE.is("ask(3, 0) of an empty TAPE", new KeyRows().ask(3, 0), KeyRows.OUTSIDE);
+        });
+    }
+
+    private static void askAll() {
         for (int kind = 0; kind < 3; kind++) {
-            x.write(0, kind);
-            for (int k : new int[] {-1, 3, 4096, Integer.MIN_VALUE, Integer.MAX_VALUE}) {
-                DUE.is("ask(" + kind + ", " + k + ")", x.ask(kind, k), KeyRows.NONE);
+            for (int from = 0; from <= 4096; from += 400) {
+                KeyRows x = written(kind, 0, 4095);
+                for (int k = from; k < from + 400 && k <= 4097; k++) {
+                    DUE.is("ask(" + kind + ", " + k + ")", x.ask(kind, k), k < 4096 ? k : KeyRows.NONE);
+                }
             }
-            for (int k = 0; k < 3; k++) {
-                DUE.is("ask(" + kind + ", " + k + ")", x.ask(kind, k), 7 + k);
-            }
-            x.sign(false);
-            DUE.is("ask(" + kind + ", 0), a bit too many", x.ask(kind, 0), KeyRows.NONE);
-            x.cut(x.size() - 2);
-            DUE.is("ask(" + kind + ", 0), a bit too few", x.ask(kind, 0), KeyRows.NONE);
-        }
-        for (int kind : NO_KINDS) {
-            DUE.is("ask(" + kind + ", -1)", x.ask(kind, -1), KeyRows.OUTSIDE);
-        }
-        DUE.same("the SET stays", Due.numbers(x, 0), "7 8 9");
-    }
-
-    private static void noTwoParts() {
-        noCode(0, "no bits", "");
-        noCode(0, "n cut short", "000000000000");
-        noCode(0, "no NUMBERS and a bit", "00000000000000");
-        noCode(0, "no last 0", "0000000000001 000000000101 1");
-        noCode(0, "a 0 too many", "0000000000001 000000000101 100");
-        noCode(0, "a 1 behind the last 0", "0000000000001 000000000101 01");
-        noCode(0, "a NUMBER 4096", "0000000000001 000000000000 01");
-        noCode(0, "two 1s", "0000000000001 000000000101 11");
-        noCode(0, "no 1", "0000000000001 000000000101 00");
-        noCode(0, "the same NUMBER twice", "0000000000010 00000000001 00000000001 1100");
-        noCode(0, "the greater NUMBER first", "0000000000010 00000000011 00000000001 1100");
-        noCode(0, "a NUMBER that is too great", "0000000000010 00000000011 00000000001 1001");
-        noCode(0, "a 1 too many at the end", "0000000000010 00000000011 00000000101 1101");
-    }
-
-    private static void noGaps() {
-        noCode(1, "no bits", "");
-        noCode(1, "n cut short", "000000000000");
-        noCode(1, "no NUMBERS and a bit", "00000000000000");
-        noCode(1, "a gap cut short", "0000000000001 0011");
-        noCode(1, "a gap of 0s", "0000000000001 000");
-        noCode(1, "a gap that is not there", "0000000000010 1");
-        noCode(1, "a bit too many", "0000000000001 001100");
-        noCode(1, "a NUMBER 4096", "0000000000001 000000000000 1000000000001");
-        noCode(1, "a gap of 14 bits", "0000000000001 0000000000000 10000000000000");
-        noCode(1, "a second NUMBER 4096", "0000000000010 000000000000 1000000000000 1");
-        noCode(1, "0s that do not end", "0000000000001" + "0".repeat(400));
-    }
-
-    private static void noPieces() {
-        noCode(2, "no bits", "");
-        noCode(2, "a PIECE too few", rest(15));
-        noCode(2, "half a PIECE", rest(15) + "1");
-        noCode(2, "a bit too many", rest(16) + "1");
-        noCode(2, "a PIECE too many", rest(17));
-        noCode(2, "a LIST cut short", rest(15) + "00 00000001 00000001 0000010");
-        noCode(2, "a LIST with a NUMBER twice", "00 00000001 00000101 00000101" + rest(15));
-        noCode(2, "a LIST with the greater first", "00 00000001 00000110 00000101" + rest(15));
-        noCode(2, "a LIST of a RUN of 3", "00 00000010 00000001 00000010 00000011" + rest(15));
-        StringBuilder list = new StringBuilder();
-        for (int i = 0; i < 33; i++) {
-            list.append(Due.bits(2 * i, 8));
-        }
-        noCode(2, "a LIST of 33", "00 00100000" + list + rest(15));
-        noCode(2, "BITS without NUMBERS", "01" + "0".repeat(256) + rest(15));
-        noCode(2, "BITS of a LIST", "01" + "10".repeat(32) + "0".repeat(192) + rest(15));
-        noCode(2, "BITS of RUNS", "01" + "1".repeat(256) + rest(15));
-        noCode(2, "BITS cut short", rest(15) + "01" + "10".repeat(127) + "1");
-        noCode(2, "RUNS of a LIST", "10 00000000 00000101 00000001" + rest(15));
-        noCode(2, "RUNS side by side", "10 00000001 00000000 00000011 00000100 00000011" + rest(15));
-        noCode(2, "RUNS over each other", "10 00000001 00000000 00000111 00000100 00001111" + rest(15));
-        noCode(2, "the greater RUN first", "10 00000001 01000000 00000111 00000000 00000111" + rest(15));
-        noCode(2, "a RUN over its PIECE's end", "10 00000000 11111101 00000011" + rest(15));
-        noCode(2, "a RUN over the last PIECE's end", rest(15) + "10 00000000 11111101 00000011");
-        noCode(2, "RUNS cut short", rest(15) + "10 00000000 11110000 0000111");
-        StringBuilder runs = new StringBuilder();
-        for (int i = 0; i < 16; i++) {
-            runs.append(Due.bits(8 * i, 8)).append(Due.bits(4, 8));
-        }
-        noCode(2, "16 RUNS", "10 00001111" + runs + rest(15));
-    }
-
-    /** The tape of all NUMBERS, its n made 4097 and as long as such a CODE would be. */
-    private static void moreNumbersThanThereAre() {
-        for (int kind = 0; kind < 2; kind++) {
-            KeyRows x = new KeyRows();
-            x.fill(0, 0, 4095);
-            x.write(0, kind);
-            x.flip(12);
-            x.sign(true);
-            DUE.is("read of 4097 NUMBERS, KIND " + kind, x.read(1, kind), KeyRows.NONE);
-            DUE.is("ask of 4097 NUMBERS, KIND " + kind, x.ask(kind, 0), KeyRows.NONE);
-            x.flip(x.size() - 2);
-            DUE.is("read of 4097 NUMBERS, KIND " + kind, x.read(1, kind), KeyRows.NONE);
-            DUE.is("count(1)", x.count(1), 0);
         }
     }
 }

@@ -14,21 +14,28 @@ public final class FaceTest {
         "int length(int,int)", "int write(int,int)", "int read(int,int)", "int ask(int,int)",
         "int sign(boolean)", "int cut(int)", "int flip(int)", "int bit(int)", "int size()"};
 
+    private static final Due DUE = new Due("FaceTest");
+
     public static void main(String[] args) {
-        Due due = new Due("FaceTest");
-        due.is("KeyRows public", Modifier.isPublic(KeyRows.class.getModifiers()) ? 1 : 0, 1);
-        due.is("KeyRows final", Modifier.isFinal(KeyRows.class.getModifiers()) ? 1 : 0, 1);
-        due.is("NONE", KeyRows.NONE, -1);
-        due.is("UNKNOWN", KeyRows.UNKNOWN, -2);
-        due.is("OUTSIDE", KeyRows.OUTSIDE, -3);
-        due.is("ROOM", KeyRows.ROOM, -4);
-        due.same("the methods", methods(), new TreeSet<>(Set.of(METHODS)));
-        due.same("the fields", fields(), new TreeSet<>(Set.of("NONE", "UNKNOWN", "OUTSIDE", "ROOM")));
-        Constructor<?>[] all = KeyRows.class.getDeclaredConstructors();
-        due.is("constructors", all.length, 1);
-        due.is("its parameters", all[0].getParameterCount(), 0);
-        due.is("it is public", Modifier.isPublic(all[0].getModifiers()) ? 1 : 0, 1);
-        due.end();
+        DUE.test("the class is public and final", () -> {
+            DUE.is("public", Modifier.isPublic(KeyRows.class.getModifiers()) ? 1 : 0, 1);
+            DUE.is("final", Modifier.isFinal(KeyRows.class.getModifiers()) ? 1 : 0, 1);
+        });
+        DUE.test("NONE = -1, UNKNOWN = -2, OUTSIDE = -3, ROOM = -4", () -> {
+            DUE.is("NONE", KeyRows.NONE, -1);
+            DUE.is("UNKNOWN", KeyRows.UNKNOWN, -2);
+            DUE.is("OUTSIDE", KeyRows.OUTSIDE, -3);
+            DUE.is("ROOM", KeyRows.ROOM, -4);
+            DUE.same("the constants", fields(), new TreeSet<>(Set.of("NONE", "UNKNOWN", "OUTSIDE", "ROOM")));
+        });
+        DUE.test("the methods", () -> DUE.same("the methods", methods(), new TreeSet<>(Set.of(METHODS))));
+        DUE.test("one constructor, public, of nothing", () -> {
+            Constructor<?>[] all = KeyRows.class.getDeclaredConstructors();
+            DUE.is("constructors", all.length, 1);
+            DUE.is("its parameters", all[0].getParameterCount(), 0);
+            DUE.is("it is public", Modifier.isPublic(all[0].getModifiers()) ? 1 : 0, 1);
+        });
+        DUE.end();
     }
 
     private static Set<String> methods() {

@@ -169,6 +169,15 @@ final class Model {
         return in(i, 0, tape.length() - 1) ? tape.charAt(i) - '0' : -1;
     }
 
+    /** All that there is, in the form of the sample's. */
+    String state() {
+        StringBuilder text = new StringBuilder();
+        for (int set = 0; set < 8; set++) {
+            text.append(set).append(": ").append(Sample.text(sets[set])).append('\n');
+        }
+        return text.append(Sample.text(tape)).toString();
+    }
+
     private static int nth(BitSet set, int k) {
         int[] all = set.stream().toArray();
         return in(k, 0, all.length - 1) ? all[k] : -1;

@@ -17,16 +17,20 @@ public final class ModelTest {
     }
 
     public static void main(String[] args) {
-        for (int run = 0; run < RUNS; run++) {
-            ModelTest test = new ModelTest(run);
-            for (int call = 0; call < CALLS; call++) {
-                test.oneCall();
+        DUE.test("1 to 23: runs of 512 calls, drawn", () -> {
+            for (int run = 0; run < RUNS; run++) {
+                ModelTest test = new ModelTest(run);
+                for (int call = 0; call < CALLS; call++) {
+                    test.oneCall();
+                }
             }
-        }
-        for (int seed = 0; seed < 45; seed++) {
-            nearlyCodes(seed);
-        }
-        oneSetOnAnothersTape();
+        });
+        DUE.test("17, 18: CODES with some bits turned", () -> {
+            for (int seed = 0; seed < 45; seed++) {
+                nearlyCodes(seed);
+            }
+        });
+        DUE.test("15 to 18: SETS of many NUMBERS with gaps", ModelTest::oneSetOnAnothersTape);
         DUE.end();
     }
 
