@@ -129,6 +129,7 @@ public final class CodesTest {
             code(2, "10 00000000 00000000 00000010" + rest(15), 0, 1, 2);
             code(2, "10 00000000 11111101 00000010" + rest(15), 253, 254, 255);
         });
+        DUE.test("PIECES: RUNS: one of a NUMBER alone, a NUMBER apart from the next one", PiecesOfNumbers::loneRuns);
         DUE.test("PIECES: a RUN ends with its PIECE", () -> {
             code(2, "10 00000000 11111101 00000010 00 00000001 00000000 00000001" + rest(14), 253, 254, 255, 256, 257);
             code(2, "00 00000000 11111111 00 00000000 00000000" + rest(14), 255, 256);
@@ -183,6 +184,17 @@ public final class CodesTest {
                     told[numbers[i]] = '1';
                 }
                 in(numbers, "01" + new String(told));
+            }
+        }
+
+        static void loneRuns() {
+            for (int v = 0; v <= 250; v++) {
+                String lone = Due.bits(v, 8) + "00000000";
+                String others = Due.bits(v + 2, 8) + "00000011";
+                code(2, "10 00000001" + lone + others + rest(15), v, v + 2, v + 3, v + 4, v + 5);
+                lone = Due.bits(v + 5, 8) + "00000000";
+                others = Due.bits(v, 8) + "00000011";
+                code(2, rest(15) + "10 00000001" + others + lone, 3840 + v, 3841 + v, 3842 + v, 3843 + v, 3845 + v);
             }
         }
 
@@ -418,6 +430,7 @@ public final class CodesTest {
             DUE.same("SET 0", Due.numbers(x, 0), "10 11 12 99");
             DUE.is("count(4)", x.count(4), 0);
         });
+        DUE.test("17: nothing of what was read before, or was no CODE, comes with the next one", CodesTest::readInTurn);
         DUE.test("17: into the SET that was written: nothing changes", () ->
             DUE.stays("read(4, 1)", x -> x.read(4, 1), 3));
         DUE.test("17: NONE: THE CODE of another KIND, and nothing changes", () -> {
@@ -455,6 +468,31 @@ public final class CodesTest {
                         DUE.same("SET " + i + " behind " + call, behind[i], i == to ? to + ": " : lines[i]);
                     }
                 }
+            }
+        }
+    }
+
+    private static void readInTurn() {
+        for (int first = 0; first < 3; first++) {
+            for (int kind = 0; kind < 3; kind++) {
+                KeyRows x = Sample.make();
+                x.write(6, first);
+                DUE.is("read of all NUMBERS", x.read(7, first), 4096);
+                x.write(3, kind);
+                DUE.is("read behind all NUMBERS", x.read(7, kind), 6);
+                DUE.same("SET 7", Due.numbers(x, 7), "3 31 32 255 256 4095");
+                x.sign(true);
+                DUE.is("read of no CODE", x.read(7, kind), KeyRows.NONE);
+                DUE.is("ask of no CODE", x.ask(kind, 0), KeyRows.NONE);
+                x.write(4, first);
+                DUE.is("ask behind no CODE", x.ask(first, 0), 10);
+                DUE.is("ask behind no CODE", x.ask(first, 3), KeyRows.NONE);
+                DUE.is("read behind no CODE", x.read(7, first), 3);
+                DUE.same("SET 7", Due.numbers(x, 7), "10 11 12");
+                x.write(0, kind);
+                DUE.is("ask behind a CODE", x.ask(kind, 0), KeyRows.NONE);
+                DUE.is("read behind a CODE", x.read(7, kind), 0);
+                DUE.is("count(7)", x.count(7), 0);
             }
         }
     }

@@ -5,7 +5,7 @@ import java.util.function.ToIntFunction;
 /** Gathers the tests of one class, each told by the sentence it holds KeyRows to, and the answers that are not due. */
 final class Due {
     private static final int LINES_OF_A_TEST = 5;
-    private static final long LONGEST_MILLIS = 5 * 60 * 1000;
+    private static final long LONGEST_MILLIS = 2 * 60 * 1000;
 
     private final String name;
     private String sentence = "";

@@ -316,6 +316,13 @@ public final class NoCodesTest {
             noCode(2, rest(15) + "10 00000000 11111101 00000011");
             noCode(2, "10 00000001 00000000 00000111 11111101 00000011" + rest(15));
         });
+        DUE.test("PIECES, none: a RUN over its PIECE's end, onto NUMBERS that the next PIECE tells too", () -> {
+            isCode(2, "10 00000000 11111101 00000010 00 00000000 00000000" + rest(14), "253 254 255 256");
+            noCode(2, "10 00000000 11111101 00000011 00 00000000 00000000" + rest(14));
+            noCode(2, "10 00000000 11111101 00000100 00 00000001 00000000 00000001" + rest(14));
+            noCode(2, "10 00000000 11111101 00000011 10 00000000 00000000 00000010" + rest(14));
+            noCode(2, rest(14) + "10 00000000 11111101 00000011 00 00000000 00000000");
+        });
     }
 
     /** Each PIECE told in a FORM that another one, with fewer bits or lesser, goes ahead of. */
