@@ -72,6 +72,22 @@ public final class NoCodesTest {
                 }
             }
         });
+        DUE.test("17: NONE: 4096 NUMBERS, and two bits that are not as those of all NUMBERS", () -> {
+            for (int kind = 0; kind < 2; kind++) {
+                for (int i : new int[] {13, 14, 15, 31, 32, 2000, 4105, LONGEST[kind] - 3, LONGEST[kind] - 2}) {
+                    KeyRows x = Sample.make();
+                    x.write(6, kind);
+                    x.flip(i);
+                    readsNone(x, kind);
+                    x.flip(i + 1);
+                    readsNone(x, kind);
+                    x.flip(i);
+                    readsNone(x, kind);
+                    x.flip(i + 1);
+                    DUE.is("read, the bits turned again", x.read(3, kind), 4096);
+                }
+            }
+        });
         DUE.test("17: NONE: a full TAPE", () -> {
             for (int kind = 0; kind < 3; kind++) {
                 KeyRows x = Sample.makeFull();
@@ -255,6 +271,8 @@ public final class NoCodesTest {
                 noCode(1, "0000000000001" + "0".repeat(zeros) + "1" + "0".repeat(zeros));
                 noCode(1, "0000000000001" + "0".repeat(zeros) + "1" + "0".repeat(zeros - 1) + "1");
                 noCode(1, "0000000000001" + "0".repeat(zeros) + "1" + "1".repeat(zeros));
+                noCode(1, "0000000000001" + "0".repeat(2 * zeros - 1) + "1");
+                noCode(1, "0000000000001" + "0".repeat(zeros) + "1".repeat(zeros));
             }
         });
         DUE.test("GAPS, none: 0s that do not end", () -> {

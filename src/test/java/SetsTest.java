@@ -377,7 +377,8 @@ public final class SetsTest {
             SetsTest::joinEachNumber);
         DUE.test("5: of no NUMBERS and of all of them: how many it has", SetsTest::joinNoneAndAll);
         DUE.test("5: a SET becomes: what it had is gone", SetsTest::joinOverWhatWasThere);
-        DUE.test("5: a and b stay", SetsTest::joinLeavesBoth);
+        DUE.test("5: a and b stay, whatever comes of the SET later", SetsTest::joinLeavesBoth);
+        DUE.test("5: the SET stays, whatever comes of a and b later", SetsTest::joinStandsApart);
         DUE.test("5: the SET may be a, or b, or both", SetsTest::joinOntoItself);
         DUE.test("5: SET 0 and SET 7 are the first and the last", SetsTest::joinEachSet);
     }
@@ -432,16 +433,37 @@ public final class SetsTest {
         }
     }
 
+    /** Whatever a and b are: SET 7, its NUMBERS changed behind the join, and then made as it was. */
     private static void joinLeavesBoth() {
-        for (int kind = 0; kind < 4; kind++) {
-            KeyRows x = Sample.make();
-            x.join(0, 4, 5, kind);
-            x.drop(0, 0, 4095);
-            DUE.same("what is there", Sample.state(x), Sample.STATE);
-            x.join(0, 4, 5, 1);
-            x.put(4, 100);
-            x.drop(5, 13, 13);
-            DUE.same("SET 0 is apart from a and b", Due.numbers(x, 0), "10 11 12 13 14");
+        for (int a = 0; a < 7; a++) {
+            for (int b = 0; b < 7; b++) {
+                for (int kind = 0; kind < 4; kind++) {
+                    KeyRows x = Sample.make();
+                    x.join(7, a, b, kind);
+                    x.fill(7, 0, 4095);
+                    x.drop(7, 0, 4095);
+                    x.put(7, 77);
+                    DUE.same("what is there behind join(7, " + a + ", " + b + ", " + kind + ")", Sample.state(x),
+                        Sample.STATE);
+                }
+            }
+        }
+    }
+
+    private static void joinStandsApart() {
+        for (int a = 0; a < 7; a++) {
+            for (int b = 0; b < 7; b++) {
+                for (int kind = 0; kind < 4; kind++) {
+                    KeyRows x = Sample.make();
+                    int n = x.join(7, a, b, kind);
+                    x.fill(a, 0, 4095);
+                    x.fill(b, 0, 4095);
+                    DUE.is("count(7), a and b filled", x.count(7), n);
+                    x.drop(a, 0, 4095);
+                    x.drop(b, 0, 4095);
+                    DUE.is("count(7), a and b without NUMBERS", x.count(7), n);
+                }
+            }
         }
     }
 
