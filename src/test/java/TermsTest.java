@@ -1,4 +1,4 @@
-/** The section "Terms": RUNS, the FORM of a PIECE, the COST, THE TAPE's length, and an object's 512 calls. */
+/** The section "Terms", in its order (its CODES are in CodesTest), and an object's 512 calls. */
 public final class TermsTest {
     private static final Due DUE = new Due("TermsTest");
     private static final int LIST = 0;
@@ -9,7 +9,10 @@ public final class TermsTest {
         numbersAndSets();
         runs();
         forms();
-        longestCodes();
+        costs();
+        theTape();
+        codes();
+        refusals();
         DUE.test("An object is used for at most 512 calls: the 512th one is answered too", TermsTest::lastCalls);
         DUE.end();
     }
@@ -26,6 +29,20 @@ public final class TermsTest {
             DUE.is("count(7)", new KeyRows().count(7), 0);
             DUE.is("count(-1)", new KeyRows().count(-1), KeyRows.UNKNOWN);
             DUE.is("count(8)", new KeyRows().count(8), KeyRows.UNKNOWN);
+        });
+        DUE.test("SETS have some of the NUMBERS, at first none", () -> {
+            for (int set = 0; set < 8; set++) {
+                KeyRows x = new KeyRows();
+                DUE.is("count(" + set + ")", x.count(set), 0);
+                DUE.same("its NUMBERS", Due.numbers(x, set), "");
+                x.put(set, 0);
+                x.fill(set, 255, 257);
+                x.put(set, 4095);
+                DUE.same("its NUMBERS", Due.numbers(x, set), "0 255 256 257 4095");
+                for (int other = 0; other < 8; other++) {
+                    DUE.is("count(" + other + ")", x.count(other), other == set ? 5 : 0);
+                }
+            }
         });
         DUE.test("PIECE h (0 to 15): 0 and 15 are, -1 and 16 are not", () -> {
             DUE.is("piece(0, 0, 1)", new KeyRows().piece(0, 0, 1), 0);
@@ -201,7 +218,30 @@ public final class TermsTest {
         DUE.is("FORM of none", x.piece(0, 0, 0), KeyRows.NONE);
     }
 
-    private static void longestCodes() {
+    private static void costs() {
+        DUE.test("The COST: for each PIECE with NUMBERS 16 bits and those of its FORM", () -> {
+            KeyRows x = new KeyRows();
+            DUE.is("COST without NUMBERS", x.cost(4), 0);
+            x.put(4, 4095);
+            DUE.is("COST of a LIST of one", x.cost(4), 16 + 8);
+            x.fill(4, 0, 255);
+            DUE.is("COST with RUNS", x.cost(4), 16 + 16 + 16 + 8);
+            for (int i = 0; i < 33; i++) {
+                x.put(4, 1024 + 3 * i);
+            }
+            DUE.is("COST with BITS", x.cost(4), 16 + 16 + 16 + 256 + 16 + 8);
+            x.drop(4, 0, 255);
+            DUE.is("COST, a PIECE without NUMBERS again", x.cost(4), 16 + 256 + 16 + 8);
+        });
+    }
+
+    private static void theTape() {
+        DUE.test("THE TAPE is a row of bits: each one stays as it came, and where", () -> {
+            String bits = "0010110111011110";
+            KeyRows x = new KeyRows();
+            Due.tape(x, bits);
+            DUE.same("THE TAPE", Due.tape(x), bits);
+        });
         DUE.test("THE TAPE: 8210 at most; each CODE has room on it", () -> {
             KeyRows x = Sample.makeFull();
             DUE.is("size()", x.size(), 8210);
@@ -210,6 +250,9 @@ public final class TermsTest {
             DUE.is("sign(true)", x.sign(true), 8210);
             DUE.is("the longest CODE", x.write(6, 0), 8205);
         });
+    }
+
+    private static void codes() {
         DUE.test("THE CODES of a SET without NUMBERS", () -> {
             String[] tapes = {"0".repeat(13), "0".repeat(13), "1".repeat(32)};
             for (int kind = 0; kind < 3; kind++) {
@@ -217,6 +260,83 @@ public final class TermsTest {
                 DUE.is("write(0, " + kind + ")", x.write(0, kind), tapes[kind].length());
                 DUE.same("THE TAPE", Due.tape(x), tapes[kind]);
             }
+        });
+        DUE.test("THE CODE: what is told in so many bits: the highest one first: n, in 13", () -> {
+            for (int bit = 0; bit <= 12; bit++) {
+                for (int kind = 0; kind < 2; kind++) {
+                    KeyRows x = new KeyRows();
+                    x.fill(0, 0, (1 << bit) - 1);
+                    x.write(0, kind);
+                    DUE.same("n of KIND " + kind, firstBits(x, 13), "0".repeat(12 - bit) + "1" + "0".repeat(bit));
+                }
+            }
+        });
+        DUE.test("THE CODE: the highest one first: the lowest l bits, a gap, a FORM and what is in 8 bits", () -> {
+            KeyRows x = new KeyRows();
+            x.put(0, 1);
+            x.write(0, 0);
+            DUE.same("TWO PARTS of 1", Due.tape(x), "0000000000001" + "000000000001" + "10");
+            x.write(0, 1);
+            DUE.same("GAPS of 1", Due.tape(x), "0000000000001" + "0" + "10");
+            x.write(0, 2);
+            DUE.same("PIECES of 1", Due.tape(x), "00" + "00000000" + "00000001" + "11".repeat(15));
+            x.fill(0, 1, 4);
+            x.write(0, 2);
+            DUE.same("PIECES of 1 to 4", Due.tape(x), "10" + "00000000" + "00000001" + "00000011" + "11".repeat(15));
+        });
+        DUE.test("THE CODE is of the SET as it is: of the NUMBERS, however they came", () -> {
+            for (int kind = 0; kind < 3; kind++) {
+                KeyRows x = new KeyRows();
+                x.put(0, 300);
+                x.put(0, 7);
+                x.fill(0, 5, 9);
+                x.fill(1, 0, 4095);
+                x.drop(1, 10, 299);
+                x.drop(1, 301, 4095);
+                x.drop(1, 0, 4);
+                x.write(0, kind);
+                String tape = Due.tape(x);
+                x.write(1, kind);
+                DUE.same("THE CODE of the same NUMBERS", Due.tape(x), tape);
+            }
+        });
+    }
+
+    private static String firstBits(KeyRows x, int n) {
+        StringBuilder text = new StringBuilder();
+        for (int i = 0; i < n; i++) {
+            text.append(x.bit(i));
+        }
+        return text.toString();
+    }
+
+    private static void refusals() {
+        DUE.test("Calls answer the first that fits: UNKNOWN ahead of OUTSIDE; then nothing changes", () -> {
+            DUE.stays("put(#, 4096)", Sample.NO_SETS, s -> x -> x.put(s, 4096), KeyRows.UNKNOWN);
+            DUE.stays("fill(#, 9, 8)", Sample.NO_SETS, s -> x -> x.fill(s, 9, 8), KeyRows.UNKNOWN);
+            DUE.stays("drop(#, 9, 8)", Sample.NO_SETS, s -> x -> x.drop(s, 9, 8), KeyRows.UNKNOWN);
+            DUE.stays("join(#, 0, 1, 4)", Sample.NO_SETS, s -> x -> x.join(s, 0, 1, 4), KeyRows.UNKNOWN);
+            DUE.stays("join(0, #, 1, 4)", Sample.NO_SETS, s -> x -> x.join(0, s, 1, 4), KeyRows.UNKNOWN);
+            DUE.stays("join(0, 1, #, 4)", Sample.NO_SETS, s -> x -> x.join(0, 1, s, 4), KeyRows.UNKNOWN);
+            DUE.stays("piece(#, 16, 4)", Sample.NO_SETS, s -> x -> x.piece(s, 16, 4), KeyRows.UNKNOWN);
+            DUE.stays("write(#, 3)", Sample.NO_SETS, s -> x -> x.write(s, 3), KeyRows.UNKNOWN);
+            DUE.stays("read(#, 3)", Sample.NO_SETS, s -> x -> x.read(s, 3), KeyRows.UNKNOWN);
+        });
+        DUE.test("OUTSIDE: another number out of its bounds, a first one above a last one", () -> {
+            DUE.stays("put(0, 4096)", x -> x.put(0, 4096), KeyRows.OUTSIDE);
+            DUE.stays("fill(0, 9, 8)", x -> x.fill(0, 9, 8), KeyRows.OUTSIDE);
+            DUE.stays("drop(6, 9, 8)", x -> x.drop(6, 9, 8), KeyRows.OUTSIDE);
+            DUE.stays("cut(-1)", x -> x.cut(-1), KeyRows.OUTSIDE);
+        });
+        DUE.test("ROOM: then nothing changes; of a full TAPE too UNKNOWN and OUTSIDE are answered", () -> {
+            String full = Sample.state(Sample.makeFull());
+            KeyRows x = Sample.makeFull();
+            DUE.is("sign(true)", x.sign(true), KeyRows.ROOM);
+            DUE.is("sign(false)", x.sign(false), KeyRows.ROOM);
+            DUE.is("write(8, 0)", x.write(8, 0), KeyRows.UNKNOWN);
+            DUE.is("write(6, 3)", x.write(6, 3), KeyRows.OUTSIDE);
+            DUE.is("cut(8211)", x.cut(8211), KeyRows.OUTSIDE);
+            DUE.same("what is there", Sample.state(x), full);
         });
     }
 
